@@ -78,6 +78,13 @@ final class Checks {
         }
     }
 
+    /** What invoice(k, 0), invoice(k, 1) and so on are to answer. */
+    static void invoiceIs(BillForge x, int k, long... due) {
+        for (int what = 0; what < due.length; what++) {
+            due("INVOICE " + k + " " + what, x.invoice(k, what), due[what]);
+        }
+    }
+
     /** CASH and RECEIVABLE together are CREDIT, REVENUE and DEFERRED together. */
     static void balanced(String what, BillForge x) {
         due(what + ": the books", x.books(0) + x.books(1), x.books(2) + x.books(3) + x.books(4));

@@ -21,8 +21,22 @@ public final class P01NewObjectTest {
         }
         Checks.throwing("invoice 0", java.util.NoSuchElementException.class, () -> x.invoice(0, 0));
         Checks.due("run", x.run(), 0);
+        tariffsAreRestZero();
         objectsAreApart();
         Checks.finish();
+    }
+
+    private static void tariffsAreRestZero() {
+        BillForge x = new BillForge();
+        for (int t = 0; t < 3; t++) {
+            x.subscribe(t, t);
+            x.event(t, t, 0, 10000);
+        }
+        x.tick(31);
+        for (int t = 0; t < 3; t++) {
+            Checks.due("charge by TARIFF " + t, x.charge(t, 0), 0);
+        }
+        Checks.due("run", x.run(), 0);
     }
 
     private static void objectsAreApart() {

@@ -6,6 +6,7 @@ public final class P04WhereTest {
         numbers();
         missingEnds();
         whatTheLatestTariffFound();
+        nothingOfAnOlderText();
         Checks.finish();
     }
 
@@ -46,6 +47,9 @@ public final class P04WhereTest {
         fault("f ee 1;rest 0", 0);
         fault("Fee 1;rest 0", 0);
         fault("fee 1;resting 0", 6);
+        for (String letter : new String[] {"a", "z", "A", "Z"}) {
+            fault("fee" + letter + " 1;rest 0", 0);
+        }
         fault("fee 1;re", 6);
     }
 
@@ -96,6 +100,17 @@ public final class P04WhereTest {
         Checks.due("empty", x.where(), 0);
         Checks.setTariff(x, 0, "rest 1");
         Checks.due("it was one again", x.where(), -2);
+    }
+
+    private static void nothingOfAnOlderText() {
+        String[] texts = {"fee 1", "fee ", "fee", "fe", "fee 1;", "fee 1;re", "fee 1;rest", "fee 1;rest "};
+        int[] places = {5, 4, 3, 0, 6, 6, 10, 11};
+        for (int i = 0; i < texts.length; i++) {
+            BillForge x = Checks.withTariff("fee 1;rest 20   ");
+            Checks.write(x, texts[i]);
+            Checks.illegalArgument("'" + texts[i] + "' behind a longer one", () -> x.tariff(0));
+            Checks.due("where in '" + texts[i] + "' behind a longer one", x.where(), places[i]);
+        }
     }
 
     private static void fault(String text, int place) {

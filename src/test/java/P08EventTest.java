@@ -55,6 +55,9 @@ public final class P08EventTest {
         Checks.throwing("and the DAY", IndexOutOfBoundsException.class, () -> x.event(1, 0, 1, 1));
         Checks.illegalArgument("and the UNITS", () -> x.event(1, 0, 0, 0));
         Checks.due("how many", x.count(1), 80);
+        Checks.setTariff(x, 0, "rest 1");
+        x.subscribe(0, 0);
+        Checks.due("all of them count", x.charge(0, 0), 5 * 16 * 17 / 2);
     }
 
     private static void wrongNumbers() {

@@ -11,12 +11,6 @@ public final class P10RunTest {
         Checks.finish();
     }
 
-    private static void invoiceIs(BillForge x, int k, long... due) {
-        for (int what = 0; what < due.length; what++) {
-            Checks.due("INVOICE " + k + " " + what, x.invoice(k, what), due[what]);
-        }
-    }
-
     private static void periodsThatHaveEnded() {
         BillForge x = Checks.withTariff("fee 310;rest 1");
         x.subscribe(2, 0);
@@ -25,12 +19,12 @@ public final class P10RunTest {
         x.tick(1);
         Checks.due("the last DAY is before TODAY", x.run(), 1);
         Checks.due("it is there", x.run(), 0);
-        invoiceIs(x, 0, 2, 0, 310, 31, 0, 0);
+        Checks.invoiceIs(x, 0, 2, 0, 310, 31, 0, 0);
         Checks.tickTo(x, 59);
         Checks.due("February has 29 days", x.run(), 0);
         x.tick(1);
         Checks.due("and ends then", x.run(), 1);
-        invoiceIs(x, 1, 2, 1, 310, 60, 0, 0);
+        Checks.invoiceIs(x, 1, 2, 1, 310, 60, 0, 0);
         x.subscribe(2, -1);
         Checks.tickTo(x, 91);
         Checks.due("a CHARGE of 0", x.run(), 0);
@@ -47,13 +41,13 @@ public final class P10RunTest {
         Checks.tickTo(x, 91);
         Checks.due("run", x.run(), 6);
         for (int k = 0; k < 6; k++) {
-            invoiceIs(x, k, k < 3 ? 1 : 4, k % 3, 100, 91, 0);
+            Checks.invoiceIs(x, k, k < 3 ? 1 : 4, k % 3, 100, 91, 0);
         }
         BillForge y = Checks.withTariff("fee 100;rest 0");
         y.subscribe(0, 0);
         Checks.tickTo(y, 400);
         Checks.due("PERIODS 0 to 12 have ended", y.run(), 13);
-        invoiceIs(y, 12, 0, 12, 100, 400);
+        Checks.invoiceIs(y, 12, 0, 12, 100, 400);
     }
 
     private static void notesForWhatCameLate() {
@@ -63,11 +57,11 @@ public final class P10RunTest {
         x.run();
         x.event(1, 0, 30, 40);
         Checks.due("an EVENT that came late", x.run(), 1);
-        invoiceIs(x, 1, 0, 0, 40, 31, 0, 0);
+        Checks.invoiceIs(x, 1, 0, 0, 40, 31, 0, 0);
         Checks.setTariff(x, 0, "fee 31;rest 1");
         Checks.due("the TARIFF as it is written now", x.run(), 1);
-        invoiceIs(x, 2, 0, 0, -279, 31, -279, 0);
-        invoiceIs(x, 0, 0, 0, 310, 31, 279, 0);
+        Checks.invoiceIs(x, 2, 0, 0, -279, 31, -279, 0);
+        Checks.invoiceIs(x, 0, 0, 0, 310, 31, 279, 0);
         Checks.due("CREDIT is gone", x.told(0, 3), 0);
         Checks.due("OPEN", x.told(0, 4), 31 + 40);
         Checks.due("together they are the CHARGE", x.books(3), x.charge(0, 0));
@@ -84,8 +78,8 @@ public final class P10RunTest {
         x.pay(0, 500);
         Checks.tickTo(x, 60);
         Checks.due("run", x.run(), 2);
-        invoiceIs(x, 0, 0, 0, 310, 60, 310, 0);
-        invoiceIs(x, 1, 0, 1, 310, 60, 190, 0);
+        Checks.invoiceIs(x, 0, 0, 0, 310, 60, 310, 0);
+        Checks.invoiceIs(x, 1, 0, 1, 310, 60, 190, 0);
         Checks.due("CREDIT", x.told(0, 3), 0);
         Checks.due("OPEN", x.told(0, 4), 120);
         Checks.balanced("behind it", x);
@@ -99,8 +93,8 @@ public final class P10RunTest {
         x.pay(0, 310);
         Checks.setTariff(x, 0, "fee 0;rest 1");
         Checks.due("run", x.run(), 2);
-        invoiceIs(x, 2, 0, 0, -310, 60, -310, 0);
-        invoiceIs(x, 3, 0, 1, -310, 60, -310, 0);
+        Checks.invoiceIs(x, 2, 0, 0, -310, 60, -310, 0);
+        Checks.invoiceIs(x, 3, 0, 1, -310, 60, -310, 0);
         Checks.due("the second one is paid by the NOTE", x.invoice(1, 4), 310);
         Checks.due("CREDIT", x.told(0, 3), 310);
         Checks.due("RECEIVABLE", x.books(1), 0);
@@ -132,8 +126,8 @@ public final class P10RunTest {
         }
         Checks.due("60 should be made", x.run(), 50);
         Checks.due("INVOICES", x.count(2), 50);
-        invoiceIs(x, 48, 4, 0, 100, 366, 100, 0);
-        invoiceIs(x, 49, 4, 1, 100, 366, 100, 0);
+        Checks.invoiceIs(x, 48, 4, 0, 100, 366, 100, 0);
+        Checks.invoiceIs(x, 49, 4, 1, 100, 366, 100, 0);
         Checks.due("those that have no room take no CREDIT", x.told(4, 3), 2800);
         Checks.due("none more", x.run(), 0);
         Checks.throwing("INVOICE 50", java.util.NoSuchElementException.class, () -> x.invoice(50, 0));

@@ -62,7 +62,11 @@ public final class P12PlanTest {
         Checks.illegalState("one more", () -> x.plan(0, 1, 1));
         Checks.illegalArgument("a wrong one more", () -> x.plan(0, 0, 1));
         Checks.due("CASH", x.books(0), 55);
+        Checks.due("DEFERRED of all", x.books(4), 55);
+        Checks.due("DEFERRED of one", x.told(0, 5), 15);
         x.tick(40);
+        Checks.due("EARNED of all", x.books(3), 55);
+        Checks.due("EARNED of one", x.told(4, 6), 13);
         Checks.illegalState("one more when they are over", () -> x.plan(0, 1, 1));
         Checks.due("how many", x.count(3), 10);
     }

@@ -8,28 +8,22 @@ public final class P14InvoiceTest {
         x.subscribe(3, 0);
         Checks.tickTo(x, 62);
         x.run();
-        row(x, 0, 3, 0, 777, 62, 0, 0);
-        row(x, 1, 3, 1, 777, 62, 0, 0);
+        Checks.invoiceIs(x, 0, 3, 0, 777, 62, 0, 0);
+        Checks.invoiceIs(x, 1, 3, 1, 777, 62, 0, 0);
         x.pay(3, 800);
-        row(x, 0, 3, 0, 777, 62, 777, 0);
-        row(x, 1, 3, 1, 777, 62, 23, 0);
+        Checks.invoiceIs(x, 0, 3, 0, 777, 62, 777, 0);
+        Checks.invoiceIs(x, 1, 3, 1, 777, 62, 23, 0);
         Checks.tickTo(x, 76);
-        row(x, 1, 3, 1, 777, 62, 23, 0);
+        Checks.invoiceIs(x, 1, 3, 1, 777, 62, 23, 0);
         Checks.tickTo(x, 77);
-        row(x, 0, 3, 0, 777, 62, 777, 0);
-        row(x, 1, 3, 1, 777, 62, 23, 1);
+        Checks.invoiceIs(x, 0, 3, 0, 777, 62, 777, 0);
+        Checks.invoiceIs(x, 1, 3, 1, 777, 62, 23, 1);
         Checks.tickTo(x, 100);
-        row(x, 1, 3, 1, 777, 62, 23, 24);
+        Checks.invoiceIs(x, 1, 3, 1, 777, 62, 23, 24);
         x.pay(3, 754);
-        row(x, 1, 3, 1, 777, 62, 777, 0);
+        Checks.invoiceIs(x, 1, 3, 1, 777, 62, 777, 0);
         wrongNumbers(x);
         Checks.finish();
-    }
-
-    private static void row(BillForge x, int k, long... due) {
-        for (int what = 0; what < due.length; what++) {
-            Checks.due("INVOICE " + k + " " + what, x.invoice(k, what), due[what]);
-        }
     }
 
     private static void wrongNumbers(BillForge x) {
