@@ -2,14 +2,17 @@ import java.util.Random;
 
 /** Long runs of calls, drawn with fixed seeds: each answer is compared with that of the slow model. */
 public final class ModelTest {
-    private static final int RUNS = 120;
-    private static final int CALLS = 500;
+    private static final int RUNS = 800;
     private static final int SPOILT_TEXTS = 5000;
+    /** Nothing is promised behind 512 calls; the last of them tell the state, and one that writes a TARIFF takes ten. */
+    private static final int CALLS_OF_STATE = 45;
+    private static final int CALLS = 512 - CALLS_OF_STATE - 10;
 
     private final Random random;
     private final BillForge x = new BillForge();
     private final SlowModel model = new SlowModel();
     private final String name;
+    private int calls = 0;
 
     private ModelTest(int seed) {
         random = new Random(seed);
@@ -18,16 +21,25 @@ public final class ModelTest {
 
     public static void main(String[] args) {
         for (int seed = 0; seed < RUNS; seed++) {
-            ModelTest test = new ModelTest(seed);
-            int longestTick = 1 + seed % 40;
-            for (int i = 0; i < CALLS; i++) {
-                test.call(i, longestTick);
-            }
+            new ModelTest(seed).callAll(1 + seed % 40);
         }
         for (int seed = 0; seed < SPOILT_TEXTS; seed++) {
             new ModelTest(seed).writeSpoiltTariff();
         }
         Checks.finish();
+    }
+
+    private void callAll(int longestTick) {
+        int middle = below(CALLS);
+        boolean wasMiddle = false;
+        while (calls < CALLS) {
+            call(name + " call " + calls, longestTick);
+            if (!wasMiddle && calls >= middle && calls < CALLS - CALLS_OF_STATE) {
+                compareState(name + " call " + calls);
+                wasMiddle = true;
+            }
+        }
+        compareState(name + " at the end");
     }
 
     private int below(int bound) {
@@ -39,65 +51,76 @@ public final class ModelTest {
         return below(40) == 0 ? below(2) * (bound + 1) - 1 : below(bound);
     }
 
-    private void call(int i, int longestTick) {
-        String at = name + " call " + i;
+    private void call(String at, int longestTick) {
         int c = about(5);
         int kind = below(100);
-        if (kind < 8) {
+        if (kind < 5) {
             writeTariff(at);
-        } else if (kind < 18) {
+        } else if (kind < 12) {
             int t = below(8) == 0 ? -1 : about(3);
             same(at + " subscribe", () -> x.subscribe(c, t), () -> model.subscribe(c, t));
-        } else if (kind < 26) {
+        } else if (kind < 18) {
             boolean on = random.nextBoolean();
             same(at + " pause", () -> x.pause(c, on) ? 1 : 0, () -> model.pause(c, on));
-        } else if (kind < 48) {
+        } else if (kind < 38) {
             int key = below(120);
-            int day = x.count(0) - below(48) + 1;
+            int day = model.count(0) - below(48) + 1;
             int units = about(300);
             same(at + " event", () -> x.event(key, c, day, units), () -> model.event(key, c, day, units));
-        } else if (kind < 66) {
+        } else if (kind < 50) {
             int days = about(longestTick + 1);
             same(at + " tick", () -> x.tick(days), () -> model.tick(days));
-        } else if (kind < 76) {
+        } else if (kind < 58) {
             same(at + " run", x::run, model::run);
-        } else if (kind < 86) {
+        } else if (kind < 65) {
             long amount = about(2000);
             same(at + " pay", () -> x.pay(c, amount), () -> model.pay(c, amount));
-        } else if (kind < 88) {
+        } else if (kind < 67) {
             long amount = about(1000001);
             int days = about(401);
             same(at + " plan", () -> x.plan(c, amount, days), () -> model.plan(c, amount, days));
         } else {
             ask(at, c);
         }
-        compareState(at);
     }
 
     private void ask(String at, int c) {
-        int p = about(14);
-        same(at + " charge", () -> x.charge(c, p), () -> model.charge(c, p));
-        int t = about(3);
-        int units = about(2000);
-        same(at + " use", () -> x.use(t, units), () -> model.use(t, units));
-        int k = below(52) - 1;
-        for (int what = -1; what <= 6; what++) {
-            int of = what;
-            same(at + " invoice", () -> x.invoice(k, of), () -> model.invoice(k, of));
+        int kind = below(6);
+        if (kind == 0) {
+            int p = about(14);
+            same(at + " charge", () -> x.charge(c, p), () -> model.charge(c, p));
+        } else if (kind == 1) {
+            int t = about(3);
+            int units = about(2000);
+            same(at + " use", () -> x.use(t, units), () -> model.use(t, units));
+        } else if (kind == 2) {
+            int k = about(1 + model.count(2));
+            int what = about(6);
+            same(at + " invoice", () -> x.invoice(k, what), () -> model.invoice(k, what));
+        } else if (kind == 3) {
+            int what = about(5);
+            same(at + " books", () -> x.books(what), () -> model.books(what));
+        } else {
+            int what = about(7);
+            same(at + " told", () -> x.told(c, what), () -> model.told(c, what));
         }
     }
 
     private void compareState(String at) {
         for (int what = 0; what <= 4; what++) {
-            Checks.due(at + " books " + what, x.books(what), model.books(what));
-            Checks.due(at + " count " + what, x.count(what), model.count(what));
+            int of = what;
+            same(at + " books " + what, () -> x.books(of), () -> model.books(of));
+            same(at + " count " + what, () -> x.count(of), () -> model.count(of));
         }
-        for (int c = 0; c < 5; c++) {
+        for (int c = 0; c <= 4; c++) {
             for (int what = 0; what <= 6; what++) {
-                Checks.due(at + " told " + c + " " + what, x.told(c, what), model.told(c, what));
+                int customer = c;
+                int of = what;
+                same(at + " told " + c + " " + what, () -> x.told(customer, of), () -> model.told(customer, of));
             }
         }
-        Checks.balanced(at, x);
+        Checks.due(at + ": the books of the model", model.books(0) + model.books(1),
+                model.books(2) + model.books(3) + model.books(4));
     }
 
     private void writeTariff(String at) {
@@ -115,9 +138,10 @@ public final class ModelTest {
             same(at + " text", () -> x.text(w), () -> model.text(w));
         }
         int t = about(3);
-        int before = x.count(4);
+        int before = model.count(4);
         same(at + " tariff '" + text + "'", () -> x.tariff(t), () -> model.tariff(t));
         int place = x.where();
+        calls++;
         Checks.due(at + " where is -2 or within", place == -2 || place >= 0 && place <= before, true);
     }
 
@@ -156,7 +180,8 @@ public final class ModelTest {
         return changed.toString();
     }
 
-    private static void same(String what, Checks.Call call, Checks.Call due) {
+    private void same(String what, Checks.Call call, Checks.Call due) {
+        calls++;
         long want;
         try {
             want = due.answer();

@@ -1,99 +1,98 @@
-/** Promise 9: tick, and the STAGES that it looks at. */
+/** Promise 9: tick. The STAGES that it looks at stand in TermsStageTest. */
 public final class P09TickTest {
     public static void main(String[] args) {
-        daysGoBy();
+        oneToForty();
         wrongNumbers();
-        stagesByDays();
-        manyDaysAreOneBehindTheOther();
-        thePauseOfStageThreeBeginsWithItsDay();
-        aPauseOfTheCustomersOwn();
-        withoutTariff();
+        fourHundredIsTheLast();
+        aWrongNumberIsToldBeforeTheLastDay();
+        oneBehindTheOther();
+        todayGoesOnByTickAlone();
         Checks.finish();
     }
 
-    private static void daysGoBy() {
-        BillForge x = new BillForge();
-        Checks.due("1", x.tick(1), 1);
-        Checks.due("40", x.tick(40), 41);
-        Checks.due("TODAY", x.count(0), 41);
-        Checks.tickTo(x, 399);
-        Checks.illegalState("401", () -> x.tick(2));
-        Checks.due("nothing changed", x.count(0), 399);
-        Checks.due("400", x.tick(1), 400);
-        Checks.illegalState("401", () -> x.tick(1));
-        Checks.illegalArgument("0 at the end", () -> x.tick(0));
-        Checks.illegalArgument("41 at the end", () -> x.tick(41));
-    }
-
-    private static void wrongNumbers() {
-        BillForge x = new BillForge();
-        Checks.illegalArgument("0", () -> x.tick(0));
-        Checks.illegalArgument("-1", () -> x.tick(-1));
-        Checks.illegalArgument("41", () -> x.tick(41));
-        Checks.illegalArgument("the least", () -> x.tick(Integer.MIN_VALUE));
-        Checks.illegalArgument("the most", () -> x.tick(Integer.MAX_VALUE));
-        Checks.due("TODAY", x.count(0), 0);
-    }
-
-    private static BillForge owing() {
-        BillForge x = Checks.withTariff("fee 310;rest 1");
-        x.subscribe(0, 0);
-        x.tick(31);
-        x.run();
-        return x;
-    }
-
-    private static void stagesByDays() {
-        BillForge x = owing();
-        for (int day = 32; day <= 90; day++) {
-            x.tick(1);
-            int overdue = Math.max(0, day - 45);
-            int stage = overdue == 0 ? 0 : overdue <= 10 ? 1 : overdue <= 20 ? 2 : 3;
-            Checks.due("STAGE on " + day, x.told(0, 2), stage);
-            Checks.due("PAUSED on " + day, x.told(0, 1), stage == 3 ? 1 : 0);
-            Checks.due("OVERDUE on " + day, x.invoice(0, 5), overdue);
-            Checks.due("STAGE of another on " + day, x.told(1, 2), 0);
+    private static void oneToForty() {
+        Checks.sentence("So many DAYS (1 to 40) go by, one behind the other: TODAY.");
+        for (int days = 1; days <= 40; days++) {
+            BillForge x = new BillForge();
+            Checks.due("tick " + days, x.tick(days), days);
+            Checks.due("TODAY", x.count(0), days);
+            Checks.due("tick 1 behind it", x.tick(1), days + 1);
+            Checks.due("tick 40 behind it", x.tick(40), days + 41);
         }
     }
 
-    private static void manyDaysAreOneBehindTheOther() {
-        BillForge x = owing();
-        x.tick(40);
-        Checks.due("STAGE", x.told(0, 2), 3);
+    private static void wrongNumbers() {
+        Checks.sentence("IllegalArgumentException for another number");
+        int[] wrong = {0, -1, -40, 41, 400, Integer.MIN_VALUE, Integer.MAX_VALUE};
+        for (int days : wrong) {
+            Checks.refusedArgument("tick " + days, BillForge::new, x -> x.tick(days));
+            Checks.refusedArgument("tick " + days, Fixtures::busy, x -> x.tick(days));
+        }
+    }
+
+    private static BillForge on(int day) {
+        BillForge x = Fixtures.owing();
+        x.plan(1, 1000, 400);
+        Checks.tickTo(x, day);
+        return x;
+    }
+
+    private static void fourHundredIsTheLast() {
+        Checks.sentence("IllegalStateException if it would be above 400.");
+        for (int days = 1; days <= 40; days++) {
+            int left = days;
+            Checks.due("tick " + days + " to 400", on(400 - days).tick(days), 400);
+            Checks.refusedState("tick " + days + " to 401", () -> on(401 - left), x -> x.tick(left));
+        }
+        Checks.refusedState("tick 40 to 440", () -> on(400), x -> x.tick(40));
+        Checks.refusedState("tick 1", Fixtures::full, x -> x.tick(1));
+        BillForge x = on(399);
+        Checks.illegalState("tick 2", () -> x.tick(2));
+        Checks.due("not a part of it goes by", x.count(0), 399);
+        Checks.due("tick 1", x.tick(1), 400);
+    }
+
+    private static void aWrongNumberIsToldBeforeTheLastDay() {
+        Checks.sentence("IllegalArgumentException for another number; IllegalStateException if it would be above 400.");
+        int[] wrong = {0, -1, 41, Integer.MIN_VALUE, Integer.MAX_VALUE};
+        for (int days : wrong) {
+            Checks.refusedArgument("tick " + days + " on 400", Fixtures::full, x -> x.tick(days));
+            Checks.refusedArgument("tick " + days + " on 399", () -> on(399), x -> x.tick(days));
+        }
+    }
+
+    private static void oneBehindTheOther() {
+        Checks.sentence("So many DAYS (1 to 40) go by, one behind the other");
+        BillForge atOnce = Fixtures.owing();
+        BillForge oneByOne = Fixtures.owing();
+        atOnce.tick(40);
+        for (int i = 0; i < 40; i++) {
+            oneByOne.tick(1);
+        }
+        Checks.due("STAGE", atOnce.told(0, 2), 3);
         // March has begun on DAY 60; the DAYS 60 to 65 are LIVE, 66 is the first with STAGE 3.
-        Checks.due("CHARGE of March", x.charge(0, 2), 60);
+        Checks.due("CHARGE of March", atOnce.charge(0, 2), 60);
+        Checks.sameState("40 at once", atOnce, oneByOne);
     }
 
-    private static void thePauseOfStageThreeBeginsWithItsDay() {
-        BillForge x = owing();
-        Checks.tickTo(x, 66);
-        Checks.due("TODAY is not LIVE", x.charge(0, 2), 60);
-        x.pay(0, 310);
-        Checks.due("but if it is paid on that DAY", x.charge(0, 2), 70);
-        x.tick(1);
-        Checks.due("and stays so", x.charge(0, 2), 80);
-    }
-
-    private static void aPauseOfTheCustomersOwn() {
-        BillForge x = owing();
+    private static void todayGoesOnByTickAlone() {
+        Checks.sentence("TODAY is 0 at first; it goes on by tick alone.");
+        BillForge x = Checks.withTariff("fee 310;rest 1");
+        x.subscribe(0, 0);
+        x.event(1, 0, 0, 1);
+        x.run();
+        x.pay(0, 1);
+        x.plan(0, 1, 1);
         x.pause(0, true);
-        Checks.tickTo(x, 60);
-        x.pay(0, 310);
-        Checks.due("STAGE from 2", x.told(0, 2), 0);
-        Checks.due("stays PAUSED", x.told(0, 1), 1);
-        BillForge y = owing();
-        y.pause(0, true);
-        Checks.tickTo(y, 66);
-        y.pay(0, 310);
-        Checks.due("STAGE from 3", y.told(0, 2), 0);
-        Checks.due("is not PAUSED any more", y.told(0, 1), 0);
-    }
-
-    private static void withoutTariff() {
-        BillForge x = owing();
+        x.charge(0, 13);
+        x.date(100000, 0);
+        x.use(0, 5);
+        Checks.due("TODAY", x.count(0), 0);
+        x.tick(31);
+        x.run();
+        x.pay(0, 1000);
+        x.event(2, 0, 20, 1);
         x.subscribe(0, -1);
-        Checks.tickTo(x, 66);
-        Checks.due("PAUSED without TARIFF", x.told(0, 1), 1);
-        Checks.illegalState("pause without TARIFF", () -> x.pause(0, true) ? 1 : 0);
+        Checks.due("TODAY", x.count(0), 31);
     }
 }
