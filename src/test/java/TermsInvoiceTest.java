@@ -89,7 +89,9 @@ public final class TermsInvoiceTest {
         Checks.setTariff(x, 0, "fee 309;rest 1");
         Checks.due("a cent less", x.run(), 1);
         Checks.invoiceIs(x, 3, 0, 0, -1, 33, -1, 0);
+        Checks.invoiceIs(x, 0, 0, 0, 310, 31, 1, 0);
         Checks.due("together they are the CHARGE", x.books(3), x.charge(0, 0));
+        Checks.balanced("behind it", x);
     }
 
     private static void noNoteWithoutADifference() {
@@ -139,6 +141,10 @@ public final class TermsInvoiceTest {
         Checks.due("CREDIT stays", x.told(0, 3), 279);
         Checks.due("of no other CUSTOMER", x.told(1, 3), 0);
         Checks.booksAre(x, 310, 0, 279, 31, 0);
+        Checks.setTariff(x, 0, "fee 30;rest 1");
+        x.run();
+        Checks.invoiceIs(x, 2, 0, 0, -1, 31, -1, 0);
+        Checks.due("a cent more of CREDIT", x.told(0, 3), 280);
         BillForge part = Fixtures.owing();
         part.pay(0, 300);
         Checks.setTariff(part, 0, "fee 299;rest 1");
