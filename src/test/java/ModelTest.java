@@ -4,6 +4,13 @@ import java.util.Random;
 public final class ModelTest {
     private static final int RUNS = 800;
     private static final int SPOILT_TEXTS = 5000;
+    private static final int SHUFFLED_TEXTS = 20000;
+    /** Of these a TEXT is put together: PARTS, what is left of some, and what can be in none. */
+    private static final String[] PIECES = {
+        "fee 7", "free 2", "min 3", "per 4 5", "tier 2 1", "tier 3 1", "tier 9 0", "tier 99999 1", "rest 8",
+        "fee", "free", "min", "per", "tier", "rest", "re", "tiers", "Fee", "x",
+        ";", ";", ";", ";", " ", "  ", "0", "1", "5", "00000", "99999", "123456", "-", "~"
+    };
     /** Nothing is promised behind 512 calls; the last of them tell the state, and one that writes a TARIFF takes ten. */
     private static final int CALLS_OF_STATE = 45;
     private static final int CALLS = 512 - CALLS_OF_STATE - 10;
@@ -25,6 +32,9 @@ public final class ModelTest {
         }
         for (int seed = 0; seed < SPOILT_TEXTS; seed++) {
             new ModelTest(seed).writeSpoiltTariff();
+        }
+        for (int seed = 0; seed < SHUFFLED_TEXTS; seed++) {
+            new ModelTest(seed).writeShuffledPieces();
         }
         Checks.finish();
     }
@@ -132,17 +142,22 @@ public final class ModelTest {
         writeText(name, spoilt(drawnTariff()));
     }
 
+    private void writeShuffledPieces() {
+        StringBuilder text = new StringBuilder();
+        for (int i = below(12); i > 0; i--) {
+            text.append(PIECES[below(PIECES.length)]).append(below(2) == 0 ? ";" : blanks());
+        }
+        writeText(name, text.substring(0, Math.min(60, text.length())));
+    }
+
     private void writeText(String at, String text) {
         for (int i = 0; i < text.length(); i += 8) {
             long w = Checks.packed(text.substring(i, Math.min(i + 8, text.length())));
             same(at + " text", () -> x.text(w), () -> model.text(w));
         }
         int t = about(3);
-        int before = model.count(4);
         same(at + " tariff '" + text + "'", () -> x.tariff(t), () -> model.tariff(t));
-        int place = x.where();
-        calls++;
-        Checks.due(at + " where is -2 or within", place == -2 || place >= 0 && place <= before, true);
+        same(at + " where in '" + text + "'", x::where, model::where);
     }
 
     private String drawnTariff() {

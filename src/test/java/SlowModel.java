@@ -17,6 +17,7 @@ final class SlowModel {
     private static final Pattern SHAPE =
             Pattern.compile("(?:" + ONE_NUMBER + "|" + TWO_NUMBERS + ")* *rest *[0-9]{1,5} *");
     private static final Pattern PART = Pattern.compile("([a-z]+) *([0-9]+)(?: +([0-9]+))?");
+    private static final Pattern WORD_OR_NUMBER = Pattern.compile("[A-Za-z]+|[0-9]+");
 
     private record Event(int customer, int day, int units) {
     }
@@ -46,6 +47,7 @@ final class SlowModel {
     private final int[] stage = new int[5];
     private final long[] credit = new long[5];
     private String text = "";
+    private int where = -2;
     private int today = 0;
     private long cash = 0;
 
@@ -90,8 +92,10 @@ final class SlowModel {
     }
 
     int tariff(int t) {
+        where = -2;
         need(within(t, 0, 2));
-        need(isTariff(text));
+        where = isTariff(text) ? -2 : faultOf(text);
+        need(where == -2);
         tariffs[t] = text;
         text = "";
         return tariffs[t].split(";").length;
@@ -117,6 +121,59 @@ final class SlowModel {
         times.remove("tier");
         boolean once = times.values().stream().allMatch(n -> n == 1);
         return once && tiers <= 4 && !(tiers > 0 && times.containsKey("per"));
+    }
+
+    int where() {
+        return where;
+    }
+
+    /** Of a TEXT that is no TARIFF: the first word or NUMBER that can not be there, else where the shape ends. */
+    private static int faultOf(String text) {
+        int end = endOfShape(text);
+        Map<String, Integer> times = new HashMap<>();
+        String word = "";
+        int numbers = 0;
+        int lastEnd = 0;
+        Matcher token = WORD_OR_NUMBER.matcher(text);
+        while (token.find() && token.start() < end) {
+            if (Character.isLetter(text.charAt(token.start()))) {
+                word = token.group();
+                numbers = 0;
+                if (!canFollow(word, times)) {
+                    return token.start();
+                }
+                times.merge(word, 1, Integer::sum);
+            } else {
+                numbers++;
+                boolean first = numbers == 1 && token.group().length() <= 5;
+                int number = first ? Integer.parseInt(token.group()) : 0;
+                if (first && (word.equals("per") && number == 0 || word.equals("tier") && number <= lastEnd)) {
+                    return token.start();
+                }
+                lastEnd = first && word.equals("tier") ? number : lastEnd;
+            }
+        }
+        return end;
+    }
+
+    /** The place of the first character with which no row of well formed PARTS goes on, or the end of the TEXT. */
+    private static int endOfShape(String text) {
+        for (int i = 0; i < text.length(); i++) {
+            Matcher begun = SHAPE.matcher(text.substring(0, i + 1));
+            if (!begun.matches() && !begun.hitEnd()) {
+                return i;
+            }
+        }
+        return text.length();
+    }
+
+    private static boolean canFollow(String word, Map<String, Integer> times) {
+        return switch (word) {
+            case "tier" -> !times.containsKey("per") && times.getOrDefault("tier", 0) < 4;
+            case "per" -> !times.containsKey("per") && !times.containsKey("tier");
+            case "fee", "free", "min", "rest" -> !times.containsKey(word);
+            default -> false;
+        };
     }
 
     /** What TARIFF t costs for days of a PERIOD: the fee first, the USE second. */
